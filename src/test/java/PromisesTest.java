@@ -338,7 +338,10 @@ public final class PromisesTest {
         due("14 the last", x.is(0), 9999);
         due("13 none", x.day(1), NONE);
         due("15 a day that can't pass", x.years(0, 1), 9999);
-        due("22 none can pass", x.foretold(1, 0, 0), 0);
+        for (int i = 1; i < 5; i++) {
+            x.person(0, 0);
+            due("22 none can pass", x.foretold(60, i, 1), 0);
+        }
         due("14 none can pass", x.played(0), 0);
         x.undo();
         x.undo();
@@ -905,8 +908,9 @@ public final class PromisesTest {
         x.person(0, 0);
         x.person(3, 0);
         due("44 no tears", x.saddest(), NONE);
+        x.pain(1, 1);
         x.ask(1);
-        due("44 the second", x.saddest(), 1);
+        due("44 the second, by one tear", x.saddest(), 1);
         x.ask(0);
         due("44 of like ones the lowest", x.saddest(), 0);
         x.pain(4, 11);

@@ -14,6 +14,7 @@ public final class TextsTest {
         t.values();
         t.conditions();
         t.wholeSentences();
+        t.wholeTapes();
         t.check.finish();
     }
 
@@ -85,6 +86,11 @@ public final class TextsTest {
         fault("needs if 1>==2 then 1 else 2 end;", 1, 12);
         fault("needs 1.5;", 1, 7);
         fault("needs tears2;", 1, 11);
+        fault("needs tearsa;", 1, 6);
+        fault("needs tearsz;", 1, 6);
+        fault("needs tearsA;", 1, 6);
+        fault("needs tearsZ;", 1, 6);
+        fault("needs tears9;", 1, 11);
         fault("_", 1, 0);
         fault("[", 1, 0);
         fault("{", 1, 0);
@@ -386,5 +392,26 @@ public final class TextsTest {
         check.due("needs without", x.of(2, 6), -32);
         x.again(2, 3);
         check.due("all alike: the lowest", x.of(2, 7), 4);
+    }
+
+    private void wholeTapes() {
+        fault(";".repeat(300), 1, 0);
+        fault(" ".repeat(299) + "z", 1, 299);
+        fault("needs " + " ".repeat(289) + "tears", 1, 300);
+        fault("needs " + "1+".repeat(147), 1, 300);
+        good(" ".repeat(300));
+        needs("1" + "+1".repeat(146), 147);
+        needs("1" + "-1".repeat(146), -145);
+        // what stood behind the end is gone
+        WantOfAWant x = new WantOfAWant();
+        Check.load(x, "ask 12;");
+        x.end(5);
+        check.due("cut within a number", x.text(), -1);
+        check.due("cut within a number: fault", x.fault(0), 1);
+        check.due("cut within a number: place", x.fault(1), 5);
+        Check.load(x, "needs tears;");
+        x.end(8);
+        x.text();
+        check.due("cut within a word: place", x.fault(1), 6);
     }
 }
