@@ -852,8 +852,7 @@ public final class WantOfAWant {
                 if ((set & ~inner) == 0) {
                     int pain = wants.painOf(set);
                     boolean better = pain < least
-                            || pain == least && Integer.bitCount(set) < Integer.bitCount(found)
-                            || pain == least && Integer.bitCount(set) == Integer.bitCount(found) && set < found;
+                            || pain == least && Integer.bitCount(set) < Integer.bitCount(found);
                     if (better && !has(reached(top, set), want)) {
                         found = set;
                         least = pain;
