@@ -210,7 +210,7 @@ final class CallSentences extends Sentences {
         due("no text", x.about(1), 0);
         due("the tape is empty then", x.about(5), 0);
         due("what comes then is read alone", reads("day 2;"), 0);
-        due("a fault at its end", reads("needs 5; day 3"), NONE);
+        due("a fault at its end", reads("needs 5; day 7; day 9; day 3"), NONE);
         due("one text yet", x.about(1), 1);
         due("the next", reads("day 3;"), 1);
         due("nothing is left of the one with a fault", x.played(1) * 100 + x.is(0), -97);
@@ -246,6 +246,11 @@ final class CallSentences extends Sentences {
         x.back();
         due("it was there yet", x.text(), 0);
         due("as it was", x.played(0) * 100 + x.is(0), -95);
+        reads("day 6; day 7; day 8;");
+        x.back();
+        due("where longer ones were", reads("day 2;") * 10 + reads(""), 1);
+        due("nothing is left of those", x.played(0) * 100 + x.is(0), -98);
+        due("nor there", x.played(1) * 100 + x.is(0), -98);
     }
 
     private void fault() {

@@ -448,6 +448,9 @@ final class LookSentences extends Sentences {
         x.hang(0, 4, false);
         x.hang(0, 6, false);
         due("none hangs any more", x.asked(four, false), 3);
+        hangs(5, 8);
+        // about 5 first: then it is one of two, or one of six that lie apart
+        due("a pair saves one question", x.asked(bits(1, 2, 5, 7, 8, 9, 10, 11), false), 6);
 
         says(T, "the first to ask about; of like ones the lowest (none for one alone).");
         due("one alone", x.asked(16, true), NONE);
