@@ -398,6 +398,24 @@ final class LookSentences extends Sentences {
             }
         }
         due("six pairs", x.chains(), 6);
+        fresh();
+        for (int w = 0; w < 35; w++) {
+            x.hang(w / 5, 7 + w % 5, true);
+        }
+        due("seven over five: two stay alone, and it is found in time", x.chains(), 7);
+        // 0, 7, 9, 11 hang on none and end a row each: 0; 2, 7; 5, 9; 1, 3, 4, 6, 8, 10, 11
+        fresh();
+        hangs(6, 11, 10, 11, 8, 10, 4, 6, 5, 6, 1, 3, 1, 11, 5, 9, 2, 7, 6, 8, 1, 9, 1, 5, 8, 9, 3, 4, 2, 9, 2, 6, 5, 8);
+        due("as few as end somewhere", x.chains(), 4);
+        // 8 and 10 both need 2, and 0, 1, 3 begin a row too: 0; 1; 10; 2, 8, 9, 11; 3, 4, 5, 6, 7
+        fresh();
+        hangs(6, 7, 2, 8, 8, 11, 0, 7, 5, 6, 9, 11, 2, 10, 7, 11, 8, 9, 3, 4, 0, 4, 4, 5, 10, 11, 2, 6, 4, 11, 2, 4, 3, 6);
+        due("two that need the same one", x.chains(), 5);
+        // 4 needs 0, 8 needs 2, so 5 needs 4, 9 needs 5, and 6 is left without; 0, 1, 2 begin the other rows
+        fresh();
+        hangs(4, 11, 2, 8, 2, 5, 8, 11, 5, 6, 0, 4, 3, 7, 6, 7, 2, 3, 7, 10, 2, 11, 3, 11, 0, 9, 8, 10, 9, 11, 4, 5, 1, 3, 1, 7,
+                2, 6, 5, 10, 5, 9);
+        due("one more than begin somewhere", x.chains(), 4);
 
         says(T, "LEVELS: the most WANTS of one way down (one alone, too).");
         due("one alone", x.levels(), 1);
@@ -427,7 +445,13 @@ final class LookSentences extends Sentences {
                 halves++;
             }
             due("a chain by halves, " + n, x.asked((1 << n) - 1, false), halves);
+            due("the end of a chain, " + n, x.asked(4095 & ~((1 << 12 - n) - 1), false), halves);
         }
+        chain();
+        due("all of a chain at once", x.asked(4095, false), 4);
+        due("its end then", x.asked(4095 & ~63, false), 3);
+        due("its last five", x.asked(4095 & ~127, false), 3);
+        due("its last four", x.asked(4095 & ~255, false), 2);
         fresh();
         for (int n = 1; n <= 12; n++) {
             due("one by one, " + n, x.asked((1 << n) - 1, false), n - 1);
